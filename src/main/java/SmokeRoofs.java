@@ -156,10 +156,8 @@ public final class SmokeRoofs {
             return finding(BEYOND);
         }
         int sum = 0;
-        for (int c = 0; c < town.chimneyCount; c++) {
-            if (chimney == -1 || chimney == c) {
-                sum += partsOver(town.chimneys[c].aloft, cell);
-            }
+        for (int c = Math.max(chimney, 0); c <= lastOf(chimney); c++) {
+            sum += partsOver(town.chimneys[c].aloft, cell);
         }
         return sum;
     }
@@ -169,10 +167,8 @@ public final class SmokeRoofs {
             return finding(BEYOND);
         }
         int sum = 0;
-        for (int c = 0; c < town.chimneyCount; c++) {
-            if (chimney == -1 || chimney == c) {
-                sum += partsOver(town.chimneys[c].soot, cell);
-            }
+        for (int c = Math.max(chimney, 0); c <= lastOf(chimney); c++) {
+            sum += partsOver(town.chimneys[c].soot, cell);
         }
         return sum;
     }
@@ -300,22 +296,10 @@ public final class SmokeRoofs {
     // ---- choosing
 
     public int place(int chimney, int n) {
-        if (!isChimney(chimney) || !isIn(n, 1, 24)) {
-            return finding(BEYOND);
-        }
-        if (!hasHours(n)) {
-            return finding(STATE);
-        }
         return richest(chimney, ITS_CELL, n);
     }
 
     public int highFor(int chimney, int n) {
-        if (!isChimney(chimney) || !isIn(n, 1, 24)) {
-            return finding(BEYOND);
-        }
-        if (!hasHours(n)) {
-            return finding(STATE);
-        }
         return richest(chimney, ITS_HIGH, n);
     }
 
@@ -347,10 +331,10 @@ public final class SmokeRoofs {
             return finding(STATE);
         }
         int best = 0;
-        int least = Integer.MAX_VALUE;
+        int least = 0;
         for (int clock = 0; clock < CLOCKS; clock++) {
             playWith(chimney, ITS_FIRST, clock, n);
-            if (tally.dirt[owner] < least) {
+            if (clock == 0 || tally.dirt[owner] < least) {
                 least = tally.dirt[owner];
                 best = clock;
             }
@@ -410,10 +394,10 @@ public final class SmokeRoofs {
         playDirt(owner, n);
         int all = (1 << town.chimneyCount) - 1;
         int best = 0;
-        int least = Integer.MAX_VALUE;
+        int least = 0;
         for (int c = 0; c < town.chimneyCount; c++) {
             int dirt = dirtWith(all & ~(1 << c));
-            if (dirt < least) {
+            if (c == 0 || dirt < least) {
                 least = dirt;
                 best = c;
             }
@@ -730,6 +714,10 @@ public final class SmokeRoofs {
         return isIn(chimney, -1, town.chimneyCount - 1);
     }
 
+    private int lastOf(int chimneyOrAll) {
+        return chimneyOrAll < 0 ? town.chimneyCount - 1 : chimneyOrAll;
+    }
+
     private boolean hasHours(int n) {
         return town.hour + n <= LAST_HOUR;
     }
@@ -776,12 +764,18 @@ public final class SmokeRoofs {
     }
 
     private int richest(int chimney, int trait, int n) {
+        if (!isChimney(chimney) || !isIn(n, 1, 24)) {
+            return finding(BEYOND);
+        }
+        if (!hasHours(n)) {
+            return finding(STATE);
+        }
         int owner = town.chimneys[chimney].traits[ITS_OWNER];
         int best = 0;
-        int most = Integer.MIN_VALUE;
+        int most = 0;
         for (int v = 0; v <= TRAIT_LIMITS[trait]; v++) {
             playWith(chimney, trait, v, n);
-            if (tally.coins[owner] > most) {
+            if (v == 0 || tally.coins[owner] > most) {
                 most = tally.coins[owner];
                 best = v;
             }
@@ -1288,16 +1282,12 @@ public final class SmokeRoofs {
         void readWind(Town town) {
             int clock = tape.needNumber(CLOCKS - 1);
             do {
-                if (clock >= CLOCKS) {
-                    tape.fail();
-                    return;
-                }
                 int v = tape.needNumber(WINDS - 1);
                 if (isSure) {
                     town.winds[clock] = v;
                 }
                 clock++;
-            } while (clock <= CLOCKS && !tape.hasFault() && tape.sort == Tape.NUMBER);
+            } while (clock < CLOCKS && !tape.hasFault() && tape.sort == Tape.NUMBER);
         }
 
         void readChimney(Town town, int kind) {
