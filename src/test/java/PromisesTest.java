@@ -50,6 +50,7 @@ public final class PromisesTest {
         promise43();
         promise44();
         theLastHours();
+        theFullTown();
         Check.end();
     }
 
@@ -625,6 +626,9 @@ public final class PromisesTest {
         two.chimney(3, 0, 6);
         due("22: calm now", two.build(1, 1), 0);
         due("22: 15 coins are more than 10", two.build(1, 2), 1);
+        SmokeRoofs left = windy(4);
+        left.chimney(1, 0, 1);
+        due("22: off the bread of cell 0", left.build(1, 1), 1);
         SmokeRoofs moved = smoky(2);
         moved.hours(3);
         moved.change(0, 2, 12);
@@ -1113,7 +1117,7 @@ public final class PromisesTest {
         x.change(0, 3, 7);
         x.hours(4);
         x.wind(7, 0);
-        x.hours(1);
+        x.hours(2);
         x.strike();
         due("41: came down", x.parts(1, 1) > 0 ? 1 : 0, 1);
         Check.feed(x, "roof 5 of 5");
@@ -1266,5 +1270,47 @@ public final class PromisesTest {
         none.chimney(0, 0, 0);
         due("26: asks no hours", none.canHave(0, 0, 0, 12), 0);
         due("5: clock of 9999", none.of(0, 9), 20);
+    }
+
+    /** Eight chimneys, a sheet of forty, a tape of 120: nothing reaches past the last of them. */
+    private static void theFullTown() {
+        SmokeRoofs x = windy(2);
+        x.roof(1, 1);
+        for (int i = 0; i < 8; i++) {
+            x.chimney(2, 0, 0);
+        }
+        x.image();
+        due("14: full", x.hours(2), 8 * 14);
+        due("9: full", x.air(-1, -1), 8 * 26);
+        due("10: full", x.settled(-1, -1), 8 * 14);
+        due("12: full", x.thickest(), 1);
+        due("15: full", x.ahead(1, 10), 8 * 5);
+        due("22: full", x.build(2, 1), 2);
+        due("23: full", x.washing(1, 1), 0);
+        due("23: full, another", x.washing(2, 1), 255);
+        due("24: full", x.worst(1, 1), 0);
+        due("25: full", x.over(2), 255);
+        due("26: full", x.canHave(2, 0, 1, 1), 255);
+        x.sheet(3, 32, 40);
+        for (int i = 0; i < 40; i++) {
+            x.write(3, i, x.ahead(i + 1, 0) - x.ahead(i, 0));
+        }
+        due("39: forty", x.judge(3), 0);
+        x.write(3, 39, -1);
+        due("39: the fortieth", x.judge(3), 40);
+        due("37: forty", x.copy(3, 0, 3, 0, 40), 40);
+        due("41: full", x.undo(), 0);
+        StringBuilder blanks = new StringBuilder();
+        for (int i = 0; i < 120; i++) {
+            blanks.append(' ');
+        }
+        due("32: 120 blanks", Check.read(x, blanks.toString()), -121);
+        blanks.replace(60, 69, "roof0of0;");
+        blanks.replace(111, 120, " roof0of1");
+        due("32: 120 bytes", Check.read(x, blanks.toString()), 2);
+        due("32: the last of them", x.roof(0, -1), 1);
+        due("32: 120 signs", Check.read(x, blanks.toString().replaceAll(".", ";")), -1);
+        due("32: 120 letters", Check.read(x, blanks.toString().replaceAll(".", "r")), -1);
+        due("32: 120 digits", Check.read(x, "roof" + blanks.toString().substring(4).replaceAll(".", "9")), -5);
     }
 }
