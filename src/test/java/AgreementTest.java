@@ -9,7 +9,8 @@ import java.util.Random;
 
 /** Long runs of drawn calls (by fixed seeds), each answered by SmokeRoofs and by PlainTown alike. */
 public final class AgreementTest {
-    private static final int RUNS = 120;
+    private static final int RUNS = 200;
+    /** What an object answers later is free. */
     private static final int CALLS = 512;
 
     /** How far the arguments of a call go, if they are to be good ones: least and most of each. */
@@ -65,6 +66,7 @@ public final class AgreementTest {
     private final List<Method> face = new ArrayList<>();
     private final StringBuilder told = new StringBuilder();
     private boolean agrees = true;
+    private int calls = 0;
 
     private AgreementTest(int seed) {
         random = new Random(seed);
@@ -85,7 +87,37 @@ public final class AgreementTest {
                 System.out.println(run.told);
             }
         }
+        everyByteOfTexts();
         Check.end();
+    }
+
+    /** Texts of which one byte after the other is another one, is one more, or is missing. */
+    private static void everyByteOfTexts() {
+        String[] texts = {"roof 3 of 5;wind 9 2 4", " oven of 1 at 2 high 9 fire 99 from 23 long 0 ",
+            "tar of0at0;kiln of1at1"};
+        for (String text : texts) {
+            for (int at = 0; at <= text.length(); at++) {
+                for (int b = 0; b < 256; b++) {
+                    sameText(text.substring(0, at) + (char) b + text.substring(at));
+                    if (at < text.length()) {
+                        sameText(text.substring(0, at) + (char) b + text.substring(at + 1));
+                    }
+                }
+                sameText(text.substring(0, at));
+                sameText(text.substring(at));
+            }
+        }
+    }
+
+    private static void sameText(String text) {
+        SmokeRoofs x = new SmokeRoofs();
+        PlainTown y = new PlainTown();
+        Check.feed(x, text);
+        y.tape.append(text);
+        Check.due("32: '" + text + "'", x.text(), y.text());
+        for (int what = 0; what < 8; what++) {
+            Check.due("32: '" + text + "' and count " + what, x.count(what), y.count(what));
+        }
     }
 
     private void play(int seed) throws Exception {
@@ -95,7 +127,7 @@ public final class AgreementTest {
         if (seed % 10 == 9) {
             nearTheEnd();
         }
-        for (int i = 0; i < CALLS && agrees; i++) {
+        while (calls < CALLS && agrees) {
             Method m = face.get(random.nextInt(face.size()));
             if (m.getName().equals("text") && random.nextInt(8) != 0) {
                 feedText();
@@ -107,22 +139,29 @@ public final class AgreementTest {
         }
     }
 
-    private void ask(Method m, Object[] args) throws Exception {
+    private int ask(Method m, Object[] args) throws Exception {
+        calls++;
         int got = (Integer) m.invoke(x, args);
+        if (calls > CALLS) {
+            return got;
+        }
         int want = (Integer) PlainTown.class.getMethod(m.getName(), m.getParameterTypes()).invoke(y, args);
         told.append(m.getName()).append(Arrays.toString(args)).append(" = ").append(got).append('\n');
         if (got != want) {
             agrees = false;
             told.append("   due is ").append(want).append('\n');
         }
+        return got;
     }
 
-    private void ask(String name, Integer... args) throws Exception {
+    private int ask(String name, Integer... args) throws Exception {
+        int got = 0;
         for (Method m : face) {
             if (m.getName().equals(name)) {
-                ask(m, args);
+                got = ask(m, args);
             }
         }
+        return got;
     }
 
     private Object[] draw(Method m) {
@@ -132,6 +171,10 @@ public final class AgreementTest {
             args[i] = range[2 * i] + random.nextInt(range[2 * i + 1] - range[2 * i] + 1);
             if (random.nextInt(25) == 0) {
                 args[i] = ODD[random.nextInt(ODD.length)];
+            }
+            if (random.nextInt(12) == 0) {
+                args[i] = new int[] {range[2 * i] - 1, range[2 * i], range[2 * i + 1], range[2 * i + 1] + 1}[
+                    random.nextInt(4)];
             }
         }
         if (m.getName().equals("sheet") && random.nextInt(10) != 0) {
@@ -183,10 +226,7 @@ public final class AgreementTest {
         ask("sheet", 0, 32, n);
         int before = 0;
         for (int i = 0; i < n; i++) {
-            int now = x.ahead(i + 1, 0);
-            if (y.ahead(i + 1, 0) != now) {
-                agrees = false;
-            }
+            int now = ask("ahead", i + 1, 0);
             ask("write", 0, i, now - before + (random.nextInt(60) == 0 ? 1 : 0));
             before = now;
         }
