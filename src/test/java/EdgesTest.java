@@ -17,6 +17,8 @@ public final class EdgesTest {
         theCoins();
         whoPays();
         gainsOfSeveral();
+        thickestOfTwo();
+        theLeastOfSeveral();
         theBurning();
         litRoundTheClock();
         theClockOfTheHour();
@@ -154,7 +156,7 @@ public final class EdgesTest {
             due("27: in one hour", x.clocks(0, 1, 1), 1 << clock);
             due("27: in two", x.clocks(0, 1, 2), 0);
         }
-        // Six clocks each way and back: a part is back behind 12 hours, and off its way ahead of it.
+        // Five to the right, one down, five to the left, one up: a part is back behind 12 hours.
         SmokeRoofs x = new SmokeRoofs();
         for (int i = 0; i < 12; i++) {
             x.wind((18 + i) % 24, i < 5 ? 2 : i == 5 ? 3 : i < 11 ? 4 : 1);
@@ -250,6 +252,83 @@ public final class EdgesTest {
         due("20: he who pays for dirt", x.gains(0, 24), 1);
         x.change(0, 3, 9);
         due("20: no yard more", x.gains(0, 24), Check.STATE);
+    }
+
+    /** Each cell against each other one: more, as many, less. */
+    private static void thickestOfTwo() {
+        int[] steps = {0, -6, 1, 6, -1};
+        for (int v = 1; v < 5; v++) {
+            for (int i = 0; i < 36 * 36; i++) {
+                int a = i / 36;
+                int b = i % 36;
+                if (a == b || isOutBy(a, v) || isOutBy(b, v)) {
+                    continue;
+                }
+                for (int fire = 19; fire <= 21; fire++) {
+                    SmokeRoofs x = new SmokeRoofs();
+                    x.wind(0, v);
+                    x.chimney(0, 0, a);
+                    x.chimney(0, 0, b);
+                    x.change(0, 3, 9);
+                    x.change(1, 3, 9);
+                    x.change(0, 4, fire);
+                    x.hours(1);
+                    int from = fire == 20 ? Math.min(a, b) : fire < 20 ? b : a;
+                    due("12: " + fire + " of " + a + ", 20 of " + b + " by " + v, x.thickest(), from + steps[v]);
+                }
+            }
+        }
+    }
+
+    private static boolean isOutBy(int cell, int v) {
+        return v == 1 && cell < 6 || v == 2 && cell % 6 == 5 || v == 3 && cell >= 30 || v == 4 && cell % 6 == 0;
+    }
+
+    /** Of several that would do the least number counts, also where it isn't 0. */
+    private static void theLeastOfSeveral() {
+        for (int a = 0; a < 8; a++) {
+            for (int b = a + 1; b < 8; b++) {
+                SmokeRoofs x = Towns.windy(2);
+                x.roof(1, 1);
+                for (int i = 0; i < 8; i++) {
+                    x.chimney(i == a || i == b ? 2 : 1, 0, 0);
+                }
+                due("24: of " + a + " and " + b, x.worst(1, 24), a);
+                due("23: all but " + a + " and " + b, x.washing(1, 12), 255 & ~(1 << a | 1 << b));
+                x.change(a, 4, 19);
+                due("24: as many parts of " + a + " and " + b, x.worst(1, 1), a);
+                x.change(a, 4, 18);
+                due("24: " + a + " or " + b, x.worst(1, 1), b);
+            }
+        }
+        for (int a = 0; a < 6; a++) {
+            for (int b = a + 1; b < 6; b++) {
+                SmokeRoofs x = Towns.windy(2);
+                x.chimney(2, 0, 6 * a);
+                x.chimney(2, 0, 6 * b + 2);
+                due("22: of rows " + a + " and " + b, x.build(1, 1), 6 * a + 1);
+                x.change(0, 4, 16);
+                due("22: " + b + " pays more", x.build(1, 1), 6 * b + 3);
+                x.roof(6 * a + 1, 1);
+                x.roof(6 * b + 3, 2);
+                x.change(0, 0, 1);
+                due("18: of rows " + a + " and " + b, x.place(0, 1), 6 * a);
+                x.roof(6 * a + 1, 0);
+                due("18: not on his own", x.place(0, 1), 6 * b + 2);
+            }
+        }
+        // Dirt settles at all clocks but two: the first of these two is the one to light at.
+        for (int a = 0; a < 24; a++) {
+            for (int b = a + 1; b < 24; b++) {
+                SmokeRoofs x = Towns.windy(2);
+                x.wind(a, 0);
+                x.wind(b, 0);
+                x.roof(1, 1);
+                x.chimney(2, 0, 0);
+                x.change(0, 6, 1);
+                due("21: of " + a + " and " + b, x.when(0, 1, 24), a);
+            }
+        }
     }
 
     /** At each clock and of each kind: an oven's last is 11, and only what burns comes to the air. */

@@ -58,27 +58,10 @@ public final class PromisesTest {
         Check.due(what, got, want);
     }
 
-    /** The wind blows one way at every clock. */
-    private static SmokeRoofs windy(int v) {
-        SmokeRoofs x = new SmokeRoofs();
-        for (int clock = 0; clock < 24; clock++) {
-            x.wind(clock, v);
-        }
-        return x;
-    }
-
     /** One chimney of owner 0 on cell 0 (20 parts an hour, 27 hundredths settle), wind to the right. */
     private static SmokeRoofs smoky(int kind) {
-        SmokeRoofs x = windy(2);
+        SmokeRoofs x = Towns.windy(2);
         x.chimney(kind, 0, 0);
-        return x;
-    }
-
-    private static SmokeRoofs atHour(int hour) {
-        SmokeRoofs x = new SmokeRoofs();
-        for (int left = hour; left > 0; left -= 48) {
-            x.hours(Math.min(left, 48));
-        }
         return x;
     }
 
@@ -268,7 +251,7 @@ public final class PromisesTest {
         due("10: all on 1", x.settled(-1, 1), 30);
         due("10: 1 on all", x.settled(1, -1), 28);
         due("10: all", x.settled(-1, -1), 42);
-        SmokeRoofs left = windy(4);
+        SmokeRoofs left = Towns.windy(4);
         left.chimney(0, 0, 1);
         left.hours(1);
         due("9: all over cell 0", left.air(0, -1), 15);
@@ -333,7 +316,7 @@ public final class PromisesTest {
         due("13: whose it is now", x.touched(0), 1 << 4 | 1);
         x.roof(2, -1);
         due("13: no roof", x.touched(0), 1 << 4);
-        SmokeRoofs thin = windy(4);
+        SmokeRoofs thin = Towns.windy(4);
         thin.chimney(0, 0, 1);
         thin.change(0, 4, 4);
         thin.roof(0, 2);
@@ -354,7 +337,7 @@ public final class PromisesTest {
         due("14: 0", x.hours(0), B);
         due("14: 49", x.hours(49), B);
         due("14: below", x.hours(MIN), B);
-        SmokeRoofs end = atHour(9952);
+        SmokeRoofs end = Towns.atHour(9952);
         due("14: one too many", end.hours(48), Check.STATE);
         due("14: unchanged", end.count(0), 9952);
         due("14: up to the last", end.hours(47), 0);
@@ -367,11 +350,11 @@ public final class PromisesTest {
         int[] to = {-1, 8, 15, 20, 13};
         int[] edge = {-1, 3, 11, 33, 12};
         for (int v = 1; v < 5; v++) {
-            SmokeRoofs x = windy(v);
+            SmokeRoofs x = Towns.windy(v);
             x.chimney(0, 0, 14);
             x.hours(1);
             due("14: wind " + v, x.air(0, to[v]), 15);
-            SmokeRoofs y = windy(v);
+            SmokeRoofs y = Towns.windy(v);
             y.chimney(0, 0, edge[v]);
             y.hours(1);
             due("14: out by wind " + v, y.parts(0, 0), 20);
@@ -382,7 +365,7 @@ public final class PromisesTest {
                 int row = cell / 6 + (v == 3 ? 1 : v == 1 ? -1 : 0);
                 int column = cell % 6 + (v == 2 ? 1 : v == 4 ? -1 : 0);
                 boolean isOut = row < 0 || row > 5 || column < 0 || column > 5;
-                SmokeRoofs x = windy(v);
+                SmokeRoofs x = Towns.windy(v);
                 x.chimney(0, 0, cell);
                 x.hours(1);
                 due("14: from " + cell + " by wind " + v, isOut ? x.parts(0, 0) : x.air(0, 6 * row + column),
@@ -442,7 +425,7 @@ public final class PromisesTest {
         due("16: blown out of town", x.clear(0), 5);
         x.wind(3, 0);
         due("16: calm", x.clear(0), 3);
-        SmokeRoofs late = windy(2);
+        SmokeRoofs late = Towns.windy(2);
         late.change(late.chimney(0, 0, 0), 6, 1);
         late.hours(1);
         late.wind(23, 0);
@@ -520,7 +503,7 @@ public final class PromisesTest {
     }
 
     private static void promise18() {
-        SmokeRoofs x = windy(2);
+        SmokeRoofs x = Towns.windy(2);
         x.chimney(1, 0, 30);
         x.roof(8, 1);
         due("18: bread beside a roof", x.place(0, 1), 7);
@@ -620,13 +603,13 @@ public final class PromisesTest {
         due("22: no room", x.build(1, 3), Check.NONE);
         x.roof(35, -1);
         due("22: one left", x.build(1, 3), 35);
-        SmokeRoofs two = windy(2);
+        SmokeRoofs two = Towns.windy(2);
         two.wind(0, 0);
         two.chimney(2, 0, 0);
         two.chimney(3, 0, 6);
         due("22: calm now", two.build(1, 1), 0);
         due("22: 15 coins are more than 10", two.build(1, 2), 1);
-        SmokeRoofs left = windy(4);
+        SmokeRoofs left = Towns.windy(4);
         left.chimney(1, 0, 1);
         due("22: off the bread of cell 0", left.build(1, 1), 1);
         SmokeRoofs moved = smoky(2);
@@ -657,7 +640,7 @@ public final class PromisesTest {
     }
 
     private static void promise24() {
-        SmokeRoofs x = windy(2);
+        SmokeRoofs x = Towns.windy(2);
         due("24: no chimneys", x.worst(0, 24), Check.NONE);
         due("24: BEYOND first", x.worst(0, 25), B);
         x.roof(1, 1);
@@ -673,7 +656,7 @@ public final class PromisesTest {
         due("24: the first", x.worst(1, 1), 0);
         x.change(0, 0, 1);
         due("24: nothing changed", x.of(1, 6), 24);
-        SmokeRoofs last = windy(2);
+        SmokeRoofs last = Towns.windy(2);
         last.roof(2, 1);
         last.chimney(2, 0, 0);
         last.chimney(2, 0, 1);
@@ -697,7 +680,7 @@ public final class PromisesTest {
     }
 
     private static void promise26() {
-        SmokeRoofs x = windy(2);
+        SmokeRoofs x = Towns.windy(2);
         for (int kind = 0; kind < 7; kind++) {
             x.change(x.chimney(kind, 0, 0), 6, 0);
         }
@@ -744,7 +727,7 @@ public final class PromisesTest {
         x.wind(23, 3);
         x.wind(0, 3);
         due("27: over midnight", x.clocks(0, 12, 2), 1 << 23);
-        SmokeRoofs all = windy(2);
+        SmokeRoofs all = Towns.windy(2);
         all.chimney(0, 0, 0);
         due("27: all", all.clocks(0, 5, 5), (1 << 24) - 1);
         due("27: out of town", all.clocks(0, 6, 6), 0);
@@ -1224,7 +1207,7 @@ public final class PromisesTest {
 
     /** STATE, where HOUR would be above 9999, comes behind BEYOND and ahead of NONE. */
     private static void theLastHours() {
-        SmokeRoofs x = atHour(9927);
+        SmokeRoofs x = Towns.atHour(9927);
         x.chimney(0, 0, 0);
         due("16: 9927", x.clear(0), 0);
         due("17: 9927", x.reaches(0, 0), Check.NONE);
@@ -1260,7 +1243,7 @@ public final class PromisesTest {
         due("23: BEYOND first", x.washing(0, 13), B);
         due("39: 12 from 9988", x.judge(0), Check.STATE);
         due("39: MISSING first", x.judge(1), Check.MISSING);
-        SmokeRoofs none = atHour(9999);
+        SmokeRoofs none = Towns.atHour(9999);
         due("24: STATE before NONE", none.worst(0, 1), Check.STATE);
         for (int cell = 0; cell < 36; cell++) {
             none.roof(cell, 0);
@@ -1274,7 +1257,7 @@ public final class PromisesTest {
 
     /** Eight chimneys, a sheet of forty, a tape of 120: nothing reaches past the last of them. */
     private static void theFullTown() {
-        SmokeRoofs x = windy(2);
+        SmokeRoofs x = Towns.windy(2);
         x.roof(1, 1);
         for (int i = 0; i < 8; i++) {
             x.chimney(2, 0, 0);
