@@ -28,7 +28,8 @@ public final class EdgesTest {
         anyZ();
         bytesOfNumbers();
         bitsOfNumbers();
-        theSignOfNumbers();
+        theSignOf8Bits();
+        theSignOf16Bits();
         copiesOnThemselves();
         loadsToTheEnd();
         judgesToTheEnd();
@@ -529,7 +530,7 @@ public final class EdgesTest {
     }
 
     /** 127 parts, and 128, settle in an hour: of 8 bits 128 is told as -128. */
-    private static void theSignOfNumbers() {
+    private static void theSignOf8Bits() {
         for (int parts = 127; parts <= 128; parts++) {
             SmokeRoofs x = Towns.windy(2);
             x.chimney(6, 0, 0);
@@ -538,15 +539,32 @@ public final class EdgesTest {
             x.chimney(0, 0, 0);
             x.change(1, 3, 0);
             x.change(1, 4, parts == 127 ? 20 : 24);
-            due("36: they settle", x.ahead(1, 0), parts);
-            int[] bits = {8, 16, 32};
-            for (int b : bits) {
-                x.sheet(0, b, 1);
-                x.write(0, 0, parts);
-                due("36: " + parts + " of " + b + " bits", x.judge(0), b == 8 && parts == 128 ? 1 : 0);
-                x.write(0, 0, parts - 256);
-                due("36: " + (parts - 256) + " of " + b + " bits", x.judge(0), b == 8 && parts == 127 ? 0 : 1);
-            }
+            judgeBits(x, parts, 8);
+        }
+    }
+
+    /** 32767 parts, and 32768, settle in an hour: of 16 bits 32768 is told as -32768. */
+    private static void theSignOf16Bits() {
+        for (int parts = 32767; parts <= 32768; parts++) {
+            SmokeRoofs x = Towns.thick();
+            x.change(0, 3, 9);
+            x.change(0, 4, 0);
+            x.change(1, 4, parts == 32767 ? 75 : 76);
+            judgeBits(x, parts, 16);
+        }
+    }
+
+    /** So many parts settle in the next hour, the most that numbers of few bits can tell, or one more. */
+    private static void judgeBits(SmokeRoofs x, int parts, int few) {
+        due("36: they settle", x.ahead(1, 0), parts);
+        boolean isMost = parts == (1 << few - 1) - 1;
+        for (int bits : new int[] {few, 2 * few, 32}) {
+            x.sheet(0, bits, 1);
+            x.write(0, 0, parts);
+            due("36: " + parts + " of " + bits + " bits", x.judge(0), bits == few && !isMost ? 1 : 0);
+            int wrapped = parts - (1 << few);
+            x.write(0, 0, wrapped);
+            due("36: " + wrapped + " of " + bits + " bits", x.judge(0), bits == few && isMost ? 0 : 1);
         }
     }
 

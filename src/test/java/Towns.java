@@ -71,6 +71,39 @@ final class Towns {
         return x;
     }
 
+    /**
+     * More in the air than is usual: eight high forges that were moved from row to row (of 33
+     * parts over a cell none settles with 3 hundredths), all become low kilns, of which 60 settle.
+     */
+    static SmokeRoofs thick() {
+        SmokeRoofs x = new SmokeRoofs();
+        for (int clock = 0; clock < 24; clock++) {
+            x.wind(clock, clock % 2 == 0 ? 2 : 4);
+        }
+        for (int i = 0; i < 8; i++) {
+            x.chimney(3, 0, 1);
+            x.change(i, 3, 9);
+            x.change(i, 4, 99);
+        }
+        for (int i = 0; i < 12; i++) {
+            changeAll(x, 2, 6 * (i / 2) + (i % 2 == 0 ? 1 : 3));
+            x.hours(4);
+        }
+        changeAll(x, 2, 1);
+        for (int i = 0; i < 3; i++) {
+            x.hours(48);
+        }
+        changeAll(x, 0, 6);
+        changeAll(x, 3, 0);
+        return x;
+    }
+
+    private static void changeAll(SmokeRoofs x, int what, int v) {
+        for (int i = 0; i < 8; i++) {
+            x.change(i, what, v);
+        }
+    }
+
     /** Dirt is in the air beside a roof of owner 1: no set of chimneys can help in the next hour. */
     static SmokeRoofs dirty() {
         SmokeRoofs x = windy(2);
